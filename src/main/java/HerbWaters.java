@@ -633,21 +633,61 @@ public final class HerbWaters {
             if (clause >= MOST_CLAUSES) {
                 return tape.fails(TOO_MANY);
             }
-            switch (word) {
-                case VILLAGE: return readVillage(tape);
-                case CHANNEL: return readChannel(tape);
-                case TAP: return readTap(tape);
-                case LEAK: return readLeak(tape);
-                case SPRING: return readOf(tape, springs, MOST_CUPS);
-                case LAG: return readOf(tape, lags, MOST_LAG);
-                case FROG: return readFrog(tape);
-                case FILTER: return readFilter(tape);
-                default: return readFeast(tape);
-            }
+            return readRest(tape, word);
         }
 
-        private int readKnown(Tape tape) {
-            return tape.numberIn(0, villages - 1);
+        /** What stands behind a clause's word. */
+        private boolean readRest(Tape tape, Word word) {
+            if (word == Word.VILLAGE) {
+                return readVillage(tape);
+            }
+            if (word == Word.FEAST) {
+                return readFeast(tape);
+            }
+            if (word == Word.TAP && tapVillage != NONE) {
+                return tape.fails(SECOND_TAP);
+            }
+            if (word == Word.CHANNEL && channels >= MOST_CHANNELS) {
+                return tape.fails(TOO_MANY);
+            }
+            int village = tape.numberIn(0, villages - 1);
+            if (village == NONE) {
+                return false;
+            }
+            if (word == Word.CHANNEL) {
+                return readChannel(tape, village);
+            }
+            if (word == Word.FILTER) {
+                return readFilter(tape, village);
+            }
+            return readNumberOf(tape, word, village);
+        }
+
+        /** Clauses of one village and at most one number. */
+        private boolean readNumberOf(Tape tape, Word word, int village) {
+            if (word == Word.FROG) {
+                frogs[village] = 1;
+                return true;
+            }
+            int least = word == Word.TAP ? 1 : 0;
+            int most = word == Word.TAP ? partsLeft(village) : word == Word.LEAK ? EIGHT - given[village]
+                    : word == Word.LAG ? MOST_LAG : MOST_CUPS;
+            int number = tape.numberIn(least, most);
+            if (number == NONE) {
+                return false;
+            }
+            if (word == Word.TAP) {
+                tapVillage = village;
+                tapParts = number;
+                given[village] += number;
+            } else if (word == Word.LEAK) {
+                leaks[village] = number;
+            } else if (word == Word.LAG) {
+                lags[village] = number;
+            } else {
+                springs[village] = number;
+            }
+            return true;
         }
 
         private boolean readVillage(Tape tape) {
@@ -663,15 +703,8 @@ public final class HerbWaters {
             return true;
         }
 
-        private boolean readChannel(Tape tape) {
-            if (channels >= MOST_CHANNELS) {
-                return tape.fails(TOO_MANY);
-            }
-            int source = readKnown(tape);
-            if (source == NONE) {
-                return false;
-            }
-            int goal = readKnown(tape);
+        private boolean readChannel(Tape tape, int source) {
+            int goal = tape.numberIn(0, villages - 1);
             if (goal == NONE) {
                 return false;
             }
@@ -687,64 +720,7 @@ public final class HerbWaters {
             return true;
         }
 
-        private boolean readTap(Tape tape) {
-            if (tapVillage != NONE) {
-                return tape.fails(SECOND_TAP);
-            }
-            int source = readKnown(tape);
-            if (source == NONE) {
-                return false;
-            }
-            int share = tape.numberIn(1, partsLeft(source));
-            if (share == NONE) {
-                return false;
-            }
-            tapVillage = source;
-            tapParts = share;
-            given[source] += share;
-            return true;
-        }
-
-        private boolean readLeak(Tape tape) {
-            int source = readKnown(tape);
-            if (source == NONE) {
-                return false;
-            }
-            int share = tape.numberIn(0, EIGHT - given[source]);
-            if (share == NONE) {
-                return false;
-            }
-            leaks[source] = share;
-            return true;
-        }
-
-        private boolean readOf(Tape tape, int[] row, int most) {
-            int village = readKnown(tape);
-            if (village == NONE) {
-                return false;
-            }
-            int number = tape.numberIn(0, most);
-            if (number == NONE) {
-                return false;
-            }
-            row[village] = number;
-            return true;
-        }
-
-        private boolean readFrog(Tape tape) {
-            int village = readKnown(tape);
-            if (village == NONE) {
-                return false;
-            }
-            frogs[village] = 1;
-            return true;
-        }
-
-        private boolean readFilter(Tape tape) {
-            int village = readKnown(tape);
-            if (village == NONE) {
-                return false;
-            }
+        private boolean readFilter(Tape tape, int village) {
             int herb = tape.nextHerb();
             if (herb == NONE) {
                 return false;
@@ -911,37 +887,33 @@ public final class HerbWaters {
                 return false;
             }
             boolean conditional = tape.takes(Word.IF);
-            if (conditional && !readAnyOf()) {
+            if (conditional && !readCondition()) {
                 return false;
             }
             opinion.endPart(herb, conditional);
             return true;
         }
 
-        private boolean readAnyOf() {
-            if (!readAllOf()) {
-                return false;
-            }
-            for (int i = 0; i < SHORT_TEXT && tape.takes(Word.OR); i++) {
-                if (!readAllOf()) {
-                    return false;
+        /** Tests with "and" and "or" between them; an "or" waits till all of its right side is there. */
+        private boolean readCondition() {
+            boolean waits = false;
+            boolean sound = readTest();
+            for (int i = 0; i < SHORT_TEXT && sound; i++) {
+                if (tape.takes(Word.AND)) {
+                    sound = readTest();
+                    opinion.add(Opinion.AND);
+                } else {
+                    if (waits) {
+                        opinion.add(Opinion.OR);
+                    }
+                    waits = tape.takes(Word.OR);
+                    if (!waits) {
+                        return true;
+                    }
+                    sound = readTest();
                 }
-                opinion.add(Opinion.OR);
             }
-            return true;
-        }
-
-        private boolean readAllOf() {
-            if (!readTest()) {
-                return false;
-            }
-            for (int i = 0; i < SHORT_TEXT && tape.takes(Word.AND); i++) {
-                if (!readTest()) {
-                    return false;
-                }
-                opinion.add(Opinion.AND);
-            }
-            return true;
+            return sound;
         }
 
         private boolean readTest() {
@@ -954,13 +926,23 @@ public final class HerbWaters {
                 return true;
             }
             if (tape.sign('[')) {
-                if (!opens() || !readAnyOf() || !tape.needSign(']')) {
+                if (!opens() || !readCondition() || !tape.needSign(']')) {
                     return false;
                 }
                 opened--;
                 return true;
             }
-            return readComparison();
+            if (!readSum()) {
+                return false;
+            }
+            int sign = tape.sign('<') ? Opinion.LESS : tape.sign('>') ? Opinion.MORE
+                    : tape.sign('=') ? Opinion.SAME : NONE;
+            if (sign == NONE) {
+                return tape.fails(MISPLACED);
+            }
+            boolean sound = readSum();
+            opinion.add(sign);
+            return sound;
         }
 
         private boolean opens() {
@@ -971,44 +953,25 @@ public final class HerbWaters {
             return true;
         }
 
-        private boolean readComparison() {
-            if (!readSum()) {
-                return false;
-            }
-            int sign = tape.sign('<') ? Opinion.LESS : tape.sign('>') ? Opinion.MORE
-                    : tape.sign('=') ? Opinion.SAME : NONE;
-            if (sign == NONE) {
-                return tape.fails(MISPLACED);
-            }
-            if (!readSum()) {
-                return false;
-            }
-            opinion.add(sign);
-            return true;
-        }
-
+        /** Values with signs between them; a + or - waits till all of its right side is there. */
         private boolean readSum() {
-            boolean sound = readProduct();
-            for (int i = 0; i < SHORT_TEXT && sound; i++) {
-                int sign = tape.sign('+') ? Opinion.ADD : tape.sign('-') ? Opinion.SUBTRACT : NONE;
-                if (sign == NONE) {
-                    return true;
-                }
-                sound = readProduct();
-                opinion.add(sign);
-            }
-            return sound;
-        }
-
-        private boolean readProduct() {
+            int waiting = NONE;
             boolean sound = readValue();
             for (int i = 0; i < SHORT_TEXT && sound; i++) {
                 int sign = tape.sign('*') ? Opinion.MULTIPLY : tape.sign('/') ? Opinion.DIVIDE : NONE;
-                if (sign == NONE) {
-                    return true;
+                if (sign != NONE) {
+                    sound = readValue();
+                    opinion.add(sign);
+                } else {
+                    if (waiting != NONE) {
+                        opinion.add(waiting);
+                    }
+                    waiting = tape.sign('+') ? Opinion.ADD : tape.sign('-') ? Opinion.SUBTRACT : NONE;
+                    if (waiting == NONE) {
+                        return true;
+                    }
+                    sound = readValue();
                 }
-                sound = readValue();
-                opinion.add(sign);
             }
             return sound;
         }

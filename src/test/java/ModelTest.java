@@ -26,10 +26,17 @@ public final class ModelTest {
         for (int i = 0; i < 60; i++) {
             switch (chance.nextInt(3)) {
                 case 0:
-                    pair.tell("town", cut(texts.spoil(texts.town(chance.nextInt(11))), 600));
+                    pair.tell("town", cut(texts.spoil(texts.town(1 + chance.nextInt(9))), 600));
                     break;
                 case 1:
+                    if (pair.number("told", 0) == 0) {
+                        pair.tell("town", "village 3;");
+                    }
                     pair.tellOpinion(0, cut(texts.spoil(texts.opinion(true)), 150));
+                    for (int herb = 0; herb < 3; herb++) {
+                        pair.call("thinks", 0, herb, chance.nextInt(9), chance.nextInt(9), chance.nextInt(9),
+                                chance.nextInt(9), chance.nextInt(9));
+                    }
                     break;
                 default:
                     pair.tell("book", cut(texts.spoil(texts.book(chance.nextInt(14))), 150));
@@ -96,6 +103,16 @@ public final class ModelTest {
                 : least + chance.nextInt(most - least + 1);
     }
 
+    /** Mostly nobody, so that something is put. */
+    private static void please(Pair pair, Random chance, int villages) {
+        boolean one = chance.nextBoolean();
+        pair.call("please", one ? near(chance, 0, (1 << villages) - 1) & near(chance, 0, (1 << villages) - 1) : 0);
+        if (one && chance.nextBoolean()) {
+            pair.call("days", near(chance, 1, 3));
+            pair.call("please", 0);
+        }
+    }
+
     private static void step(Pair pair, Texts texts, Random chance, int villages, boolean large) {
         int v = near(chance, 0, villages - 1);
         int herb = near(chance, 0, 2);
@@ -112,9 +129,11 @@ public final class ModelTest {
             case 7: pair.call("view", near(chance, 0, 99)); break;
             case 8: pair.call("ahead", v, near(chance, 0, 99), near(chance, 0, 3)); break;
             case 9: pair.call("when", near(chance, 0, 7)); break;
-            case 10: pair.call("please", near(chance, 0, (1 << villages) - 1)); break;
-            case 11: pair.call("please", 0); break;
-            case 12: pair.call("contrary", near(chance, 0, (1 << villages) - 1)); break;
+            case 10: please(pair, chance, villages); break;
+            case 11: pair.call("days", near(chance, 1, 2)); break;
+            case 12: if (chance.nextInt(3) == 0) {
+                    pair.call("contrary", near(chance, 0, (1 << villages) - 1));
+                } break;
             case 13: pair.call("whom", far); break;
             case 14: pair.call("feast"); break;
             case 15: pair.call("filters", v, herb, far); break;
@@ -123,9 +142,11 @@ public final class ModelTest {
             case 18: pair.call("where", far); break;
             case 19: pair.call("tasted", v, far); break;
             case 20: pair.call("round", near(chance, 0, 1)); break;
-            case 21: pair.call("grade", v, near(chance, 0, 3)); break;
+            case 21: pair.call("grade", v, chance.nextInt(3) == 0 ? near(chance, 0, 3) : 0); break;
             case 22: pair.call("loss", v, near(chance, 1, 30), near(chance, 0, 9), near(chance, 0, 1)); break;
-            case 23: pair.call("rest", large ? 3 : near(chance, 1, 12), near(chance, 0, 9)); break;
+            case 23: if (chance.nextInt(3) == 0) {
+                    pair.call("rest", large ? 3 : near(chance, 1, 12), near(chance, 0, 4));
+                } break;
             case 24: pair.call("drought", chance.nextInt(), near(chance, 0, 16), far, near(chance, 0, 1)); break;
             case 25: pair.call("span", chance.nextInt(), near(chance, 1, 30), near(chance, 0, 16), far,
                     near(chance, 0, 2)); break;

@@ -73,7 +73,7 @@ final class Texts {
 
     String opinion(boolean mayAskDay) {
         StringBuilder sb = new StringBuilder();
-        int parts = chance.nextInt(4);
+        int parts = 1 + chance.nextInt(3);
         for (int i = 0; i < parts; i++) {
             String part = gap() + "put " + herb() + " " + sum(2, mayAskDay);
             if (chance.nextInt(2) == 0) {
@@ -144,28 +144,35 @@ final class Texts {
         return sb.toString();
     }
 
-    /** Another text, by a few changes of signs and words. */
+    /** Another text, by a change or two at the edges of its words, numbers and signs. */
     String spoil(String text) {
-        String[] bits = {";", " ", "(", ")", "[", "]", "not ", "0", "9", "village", "tap 0 1;", "<", "=", "+", "put",
-            "if", "or", "and", "mint", "a", "\u0000", "\u00e9", "((((", "[[[", "not not not ", "channel 0 0 1;",
-            "put mint 1;", "1 1;", "village 1;"};
-        StringBuilder sb = new StringBuilder(text);
-        for (int i = chance.nextInt(3); i >= 0; i--) {
-            int at = chance.nextInt(sb.length() + 1);
-            switch (chance.nextInt(4)) {
-                case 0:
-                    sb.insert(at, bits[chance.nextInt(bits.length)]);
-                    break;
-                case 1:
-                    sb.setLength(at);
-                    break;
-                default:
-                    if (at < sb.length()) {
-                        sb.deleteCharAt(at);
-                    }
-                    break;
+        String[] bits = {";", " ", "(", ")", "[", "]", "not ", "0", "9", "<", "=", "+", "/", "put ", " if ", " or ",
+            " and ", "mint", "a", "\u0000", "\u00e9", "((((", "[[[", "not not not ", " 1 ", " 60 ", " 100 ", "1000"};
+        String[] whole = {"village 1;", "tap 0 1;", "tap 0 1;tap 0 1;", "channel 0 0 1;", "channel 0 0 1;".repeat(20),
+            "leak 0 5;", "frog 0;".repeat(50), "put mint 1;", "put rue 2;".repeat(5), "1 1;", "99 7;".repeat(9)};
+        String spoilt = text;
+        for (int i = chance.nextInt(2); i >= 0; i--) {
+            if (chance.nextInt(3) == 0) {
+                int at = spoilt.indexOf(';', chance.nextInt(spoilt.length() + 1)) + 1;
+                spoilt = spoilt.substring(0, at) + whole[chance.nextInt(whole.length)] + spoilt.substring(at);
+                continue;
             }
+            int at = edge(spoilt);
+            String bit = chance.nextInt(3) == 0 ? "" : bits[chance.nextInt(bits.length)];
+            int end = chance.nextBoolean() ? at : Math.min(spoilt.length(), at + 1 + chance.nextInt(4));
+            spoilt = spoilt.substring(0, at) + bit + (chance.nextInt(9) == 0 ? "" : spoilt.substring(end));
         }
-        return sb.toString();
+        return spoilt;
+    }
+
+    /** A place where another kind of sign begins. */
+    private int edge(String text) {
+        int at = chance.nextInt(text.length() + 1);
+        while (at > 0 && at < text.length()
+                && Character.isLetter(text.charAt(at)) == Character.isLetter(text.charAt(at - 1))
+                && Character.isDigit(text.charAt(at)) == Character.isDigit(text.charAt(at - 1))) {
+            at++;
+        }
+        return at;
     }
 }
