@@ -1,5 +1,6 @@
 /** Promises 3 to 6: texts with faults, each with its kind and place, and sound ones at the limits. */
 public final class FaultTest {
+    private static final int NONE_AT = HerbWaters.NONE;
     private static final String NINE = "village 1;".repeat(9);
 
     public static void main(String[] args) {
@@ -8,6 +9,7 @@ public final class FaultTest {
         opinions();
         nesting();
         books();
+        cutTexts();
         Check.end("FaultTest");
     }
 
@@ -116,6 +118,10 @@ public final class FaultTest {
         goodOpinion("  ", 0);
         goodOpinion("put mint 1;".repeat(6), 6);
         badOpinion("putmint1;", 1, 0);
+        badOpinion("put mintz 1;", 1, 4);
+        badOpinion("put mint`1;", 1, 8);
+        badOpinion("put mint{1;", 1, 8);
+        badOpinion("put mint:1;", 1, 8);
         goodOpinion("put mint 1if 1<2or 3>4and not 5=6;", 1);
         goodOpinion("put sage ( put+day*spring ) / water - mint if [ [ 1 < 2 ] or 2 = 3 ] and rue > sage;", 1);
         badOpinion("put mint 1;".repeat(6) + "put", 3, 66);
@@ -162,6 +168,23 @@ public final class FaultTest {
         badOpinion("put mint 1 if not [not [not 1 < ((2))]];", 3, 33);
         goodOpinion("put mint 1 if not [not [not 1 < (2)]];", 1);
         badOpinion("put mint (((((( (1;", 3, 16);
+    }
+
+    /** What stands on the tape behind the first n bytes is not of the text. */
+    private static void cutTexts() {
+        String text = "village 12 ; frog 0;";
+        int[] places = {0, 0, 0, 7, 8, 9, 10, 11, NONE_AT, NONE_AT};
+        int[] lengths = {1, 3, 6, 7, 8, 9, 10, 11, 12, 13};
+        for (int i = 0; i < lengths.length; i++) {
+            HerbWaters x = new HerbWaters();
+            Check.feed(x, text);
+            Check.due("cut at " + lengths[i], x.town(lengths[i]), places[i] == NONE_AT ? 1 : -9);
+            Check.due("place, cut at " + lengths[i], x.fault(), places[i]);
+        }
+        HerbWaters x = Check.town("village 1;");
+        Check.feed(x, "put mint 12;");
+        Check.due("a number that is cut", x.opinion(0, 10), -9);
+        Check.due("its place", x.fault(), 10);
     }
 
     private static void books() {

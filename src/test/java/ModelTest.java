@@ -157,7 +157,15 @@ public final class ModelTest {
             case 30: pair.call("village", v, near(chance, 0, 8)); break;
             case 31: pair.call("told", near(chance, 0, 7)); break;
             default:
-                if (chance.nextInt(3) == 0) {
+                if (chance.nextInt(4) == 0) {
+                    pair.feed(texts.town(villages));
+                    pair.call("town", near(chance, 0, 30));
+                    pair.call("fault");
+                    pair.tell("town", texts.town(villages));
+                    for (int k = 0; k < villages; k++) {
+                        pair.tellOpinion(k, texts.opinion(false));
+                    }
+                } else if (chance.nextInt(3) == 0) {
                     pair.tellOpinion(Math.max(0, Math.min(villages - 1, v)), texts.opinion(chance.nextInt(6) == 0));
                 }
                 break;

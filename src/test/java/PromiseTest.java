@@ -8,6 +8,7 @@ public final class PromiseTest {
         newObject();
         feed();
         town();
+        secondTown();
         opinion();
         opinionValues();
         book();
@@ -134,6 +135,35 @@ public final class PromiseTest {
         Check.opinion(x, 0, "put mint 8 if day = 1;");
         x.days(2);
         Check.due("3: the last filter", x.village(0, 1), 7);
+    }
+
+    /** Nothing of a town is left in the next one. */
+    private static void secondTown() {
+        HerbWaters x = Check.town("village 50;village 40;channel 0 1 3;channel 1 0 3;leak 0 2;leak 1 1;tap 1 4;spring 0 9;"
+                + "spring 1 8;lag 0 5;lag 1 4;frog 0;frog 1;filter 0 mint 3;filter 1 rue 4;feast 7;");
+        Check.opinion(x, 0, "put mint put+9;put rue 30;");
+        Check.opinion(x, 1, "put sage 50;put mint 30;");
+        Check.book(x, "5 1;");
+        x.contrary(3);
+        x.grade(1, 3);
+        x.days(12);
+        x.minds(0);
+        x.round(0);
+        String plain = "village 5;village 6;channel 0 1 8;tap 1 8;";
+        HerbWaters y = Check.town(plain);
+        Check.due("3: the next town", Check.town(x, plain), 2);
+        Check.due("3: as new", java.util.Arrays.equals(picture(x), picture(y)));
+        for (int what = 0; what < 4; what++) {
+            Check.due("24: as new, " + what, x.minds(what), y.minds(what));
+        }
+        for (int v = 0; v < 2; v++) {
+            Check.opinion(x, v, "put mint 9;put rue put;put sage mint;");
+            Check.opinion(y, v, "put mint 9;put rue put;put sage mint;");
+        }
+        x.days(7);
+        y.days(7);
+        Check.due("3: and goes on as new", java.util.Arrays.equals(picture(x), picture(y)));
+        Check.due("28: a round as new", x.round(0) * 1000 + x.round(1), y.round(0) * 1000 + y.round(1));
     }
 
     private static void opinion() {
@@ -314,6 +344,11 @@ public final class PromiseTest {
         }
         Check.due("11: the last", x.undo(99), 9);
         Check.due("11: day 0", x.told(4), 0);
+        for (int i = 1; i <= 11; i++) {
+            x.days(99);
+        }
+        Check.due("11: the last day", x.undo(1), 1);
+        Check.due("11: water on the day ahead of it", x.village(0, 0), 5 + 3 * 998);
     }
 
     private static void undo() {
@@ -739,6 +774,13 @@ public final class PromiseTest {
         round("an opinion asks for day", z, NONE, NONE);
         z.please(1);
         round("pleased or not", z, NONE, NONE);
+        HerbWaters far = Check.town("village 0;");
+        Check.opinion(far, 0, "put mint 1 if mint < 198;");
+        round("behind 200 days", far, 200, 1);
+        Check.opinion(far, 0, "put mint 1 if mint < 199;");
+        round("behind 201 days", far, NONE, NONE);
+        far.days(1);
+        round("from the next day on", far, 200, 1);
         HerbWaters w = Check.town("village 0;spring 0 1;");
         round("never", w, NONE, NONE);
         // The basin is 0, then 4 for ever; a lag of 3 remembers two days of it.
@@ -814,6 +856,11 @@ public final class PromiseTest {
         Check.due("31: it does not rest", y.rest(4, 1), 0);
         Check.due("31: grade of the first", y.village(0, 8), 0);
         Check.due("31: grade of the second", y.village(1, 8), 1);
+        HerbWaters z = Check.town("village 0;village 0;channel 0 1 7;channel 1 0 6;");
+        Check.opinion(z, 1, "put rue 4;");
+        Check.due("31: it comes back to the beginning", z.rest(4, 1), 0);
+        Check.due("31: the first as at the beginning", z.village(0, 8), 0);
+        Check.due("31: the second as at the beginning", z.village(1, 8), 0);
         Check.improper("31: days 0", () -> x.rest(0, 0));
         Check.improper("31: days 31", () -> x.rest(31, 0));
         Check.improper("31: c -1", () -> x.rest(1, -1));
