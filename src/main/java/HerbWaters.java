@@ -745,21 +745,23 @@ public final class HerbWaters {
 
     /** An opinion as steps for a stack: numbers, things looked at, signs that join, and ends of parts. */
     private static final class Opinion {
+        /** How many things a village looks at: the herbs, water, day, put, spring. */
+        static final int SIGHTS = 7;
         /** Steps below it are numbers. */
         static final int LOOK = 1000;
-        static final int JOIN = 2000;
-        static final int ADD = 2000;
-        static final int SUBTRACT = 2001;
-        static final int MULTIPLY = 2002;
-        static final int DIVIDE = 2003;
-        static final int LESS = 2004;
-        static final int MORE = 2005;
-        static final int SAME = 2006;
-        static final int AND = 2007;
-        static final int OR = 2008;
-        static final int NOT = 2100;
-        static final int PUT = 3000;
-        static final int PUT_IF = 4000;
+        static final int ADD = LOOK + SIGHTS;
+        static final int SUBTRACT = ADD + 1;
+        static final int MULTIPLY = ADD + 2;
+        static final int DIVIDE = ADD + 3;
+        static final int LESS = ADD + 4;
+        static final int MORE = ADD + 5;
+        static final int SAME = ADD + 6;
+        static final int AND = ADD + 7;
+        static final int OR = ADD + 8;
+        static final int NOT = ADD + 9;
+        /** The end of a part that puts a herb, and behind these the same if its condition is so. */
+        static final int PUT = NOT + 1;
+        static final int PUT_IF = PUT + HERBS;
         private static final int MOST_STEPS = 160;
         /** Six brackets open at two values each, and what stands outside of them, need some twenty. */
         private static final int MOST_VALUES = 64;
@@ -805,7 +807,7 @@ public final class HerbWaters {
                 if (step < LOOK) {
                     values[top] = step;
                     top++;
-                } else if (step < JOIN) {
+                } else if (step < LOOK + SIGHTS) {
                     values[top] = sight[step - LOOK];
                     top++;
                 } else if (step >= PUT) {
@@ -1254,14 +1256,12 @@ public final class HerbWaters {
 
     /** The town with its opinions: leads days on. */
     private static final class Aqueduct {
-        private static final int SIGHTS = 7;
-
         private Town town = new Town();
         private final Opinion[] opinions = new Opinion[MOST_VILLAGES];
         private final int[] change = new int[MOST_VILLAGES * (1 + HERBS * MOST_VILLAGES)];
         private final int[] fresh = new int[MOST_VILLAGES * HERBS];
         private final int[] decided = new int[HERBS];
-        private final int[] sight = new int[SIGHTS];
+        private final int[] sight = new int[Opinion.SIGHTS];
 
         Aqueduct() {
             for (int v = 0; v < MOST_VILLAGES; v++) {
