@@ -4,6 +4,7 @@ import java.util.NoSuchElementException;
 final class Check {
     private static int checks = 0;
     private static int wrong = 0;
+    private static String sentence = "";
 
     private Check() { }
 
@@ -11,11 +12,20 @@ final class Check {
         int answer();
     }
 
+    /** The checks from here on are of one sentence. */
+    static void under(String words) {
+        sentence = words.isEmpty() ? "" : words + ": ";
+    }
+
+    static int many() {
+        return checks;
+    }
+
     static void due(String what, int got, int want) {
         checks++;
         if (got != want) {
             wrong++;
-            System.out.println(what + ": answered " + got + ", due is " + want);
+            System.out.println(sentence + what + ": answered " + got + ", due is " + want);
         }
     }
 
@@ -38,11 +48,11 @@ final class Check {
         try {
             int got = call.answer();
             wrong++;
-            System.out.println(what + ": answered " + got + ", due is " + kind.getSimpleName());
+            System.out.println(sentence + what + ": answered " + got + ", due is " + kind.getSimpleName());
         } catch (RuntimeException e) {
             if (e.getClass() != kind) {
                 wrong++;
-                System.out.println(what + ": threw " + e + ", due is " + kind.getSimpleName());
+                System.out.println(sentence + what + ": threw " + e + ", due is " + kind.getSimpleName());
             }
         }
     }
