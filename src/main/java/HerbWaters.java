@@ -828,7 +828,7 @@ public final class HerbWaters {
             if (top < 1 || conditional && (top < 2 || values[1] == 0)) {
                 return;
             }
-            int due = Math.max(0, Math.min(MOST_CUPS, values[0]));
+            int due = values[0] < 0 ? 0 : values[0] > MOST_CUPS ? MOST_CUPS : values[0];
             cups[herb] += frog ? due / 2 : due;
         }
 

@@ -161,6 +161,12 @@ final class AskEdges {
         x.grade(8, 3);
         x.days(9);
         minds("from day 0 on, nobody pleased", x, 1, 256, 256, 255);
+        Check.opinion(x, 8, "put rue 1 if day=1;put sage 1 if day=5;");
+        minds("by another opinion, of rue", x, 1, 0, 0, 511);
+        Check.opinion(x, 8, "put mint 1 if day=1;put sage 1 if day=5;");
+        minds("by another opinion, of mint", x, 1, 256, 256, 255);
+        Check.town(x, "village 0;village 0;");
+        minds("of another town", x, 4, 0, 0, 0);
     }
 
     private static void whereItBegan() {
@@ -249,8 +255,13 @@ final class AskEdges {
         round("of one who is pleased", day, NONE, NONE);
         Check.opinion(day, 1, "put mint 0*(1+day);");
         round("in a sum", day, NONE, NONE);
+        Check.opinion(day, 1, "put mint 0*day*water;put rue 0;");
+        round("ahead of other words", day, NONE, NONE);
         Check.opinion(day, 1, "put mint 0;");
         round("no longer", day, 1, 1);
+        Check.opinion(day, 0, "put mint 0 if day<0;");
+        round("of the first village", day, NONE, NONE);
+        Check.opinion(day, 0, "");
         Check.opinion(day, 1, "put mint day");
         round("in a text with a fault", day, 1, 1);
     }

@@ -10,6 +10,7 @@ public final class EdgeTest {
         FaultEdges.run();
         DayEdges.run();
         AskEdges.run();
+        FullEdges.run();
         TextCalls.run();
         StateCalls.run();
         AskCalls.run();

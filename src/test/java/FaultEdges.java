@@ -97,6 +97,9 @@ final class FaultEdges {
         OpinionEdges.bad("put mint 1 if [not [not [(1)<(2)]] and [not [not [", "not 1<2]]]];", 3);
         OpinionEdges.good("put mint 1 if [not [not [(1)<(2)]] and [not [not [1<2]]]];", 1);
         OpinionEdges.good("put mint ((((((1))))));put mint ((((((1))))));", 1 + 1);
+        HerbWaters x = Check.town("village 1;");
+        Check.opinion(x, 0, "put mint 1 if not [not ((((1");
+        Check.due("nothing is open as the next text begins", Check.opinion(x, 0, "put mint ((((((1))))));"), 1);
     }
 
     private static void secondTap() {

@@ -121,6 +121,9 @@ final class KeepCalls {
         Check.due("the most without a spring", x.span(7, 30, 16, 60, 2), 16);
         Check.due("the least with it", x.span(7, 30, 0, 60, 1), 16 + 59 * 5);
         Check.due("the most with it", x.span(7, 30, 0, 60, 2), 16 + 59 * 5);
+        HerbWaters none = Check.town("village 16;spring 0 5;");
+        Check.due("without a tap the least is 0", none.span(7, 30, 8, 60, 1), 0);
+        Check.due("without a tap the most is 0", none.span(7, 30, 8, 60, 2), 0);
         for (int seed : new int[] {MOST, LEAST, 3}) {
             int water = x.drought(seed, 8, 60, 1);
             Check.due("of one seed " + seed, x.span(seed, 1, 8, 60, 1), water);

@@ -94,6 +94,9 @@ final class OpinionEdges {
         so("4=4");
         notSo("5=4");
         so("0-1<0");
+        so("3<4 and 4=4 and 5>4");
+        so("not 4<3 and not 3>4 and not 3=4");
+        notSo("not 3<4 or not 4>3 or not 4=4");
         so("not 1=2");
         notSo("not 1=2 and 1=2");
         notSo("[1=1 or 1=1] and 1=2");
@@ -130,6 +133,13 @@ final class OpinionEdges {
         Check.due("sage", puts("sage"), 2);
         Check.due("water", puts("water"), 50);
         Check.due("day", puts("day"), 3);
+        for (String lag : new String[] {"", "lag 0 1;"}) {
+            HerbWaters basin = Check.town("village 6;" + lag);
+            Check.opinion(basin, 0, "put mint 2 if day=1;put rue 3 if day=1;put sage 5 if day=1;"
+                    + "put sage water*8+mint*4+rue*2+sage if day=2;");
+            basin.days(2);
+            Check.due("on a day, \"" + lag + "\"", basin.put(0, 2), 5 + 6 * 8 + 2 * 4 + 3 * 2 + 5);
+        }
         bad("put mint ", "lag;", 1);
         bad("put mint ", "village;", 1);
         Sentences.of("Terms", "\"put\" (all it put on the DAY ahead)");
@@ -223,6 +233,14 @@ final class OpinionEdges {
         TownEdges.bad("", "Village 1;", 1);
         TownEdges.bad("", "VILLAGE 1;", 1);
         TownEdges.bad("", "villagefrog 1;", 1);
+        TownEdges.bad("", "villagez 1;", 1);
+        TownEdges.bad("", "avillage 1;", 1);
+        TownEdges.bad("", "xillage 1;", 1);
+        TownEdges.bad("", "villagx 1;", 1);
+        for (String other : new String[] {"mint", "rue", "sage", "water", "day", "put", "if", "or", "and", "not"}) {
+            TownEdges.bad("village 1;", other + " 0 1;", 1);
+            TownEdges.bad("village 1;", other + ";", 1);
+        }
         TownEdges.good("village1;frog0;filter0mint1;", 1);
         TownEdges.bad("village", "`1;", 1);
         TownEdges.bad("village", "{1;", 1);

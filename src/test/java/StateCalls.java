@@ -131,6 +131,25 @@ final class StateCalls {
                 Check.due("and on from " + ahead + " again, behind " + more, same(x, y));
             }
         }
+        for (int barrier : new int[] {1, 5, 31, 40}) {
+            HerbWaters x = undoTown();
+            HerbWaters y = undoTown();
+            x.days(barrier);
+            x.grade(0, 1);
+            y.days(barrier);
+            y.grade(0, 1);
+            x.days(99);
+            x.days(70);
+            y.days(63);
+            Check.due("99 of them", x.undo(99), 99);
+            Check.due("7 of them", x.undo(7), 7);
+            Check.due("back to 63 days behind the grade of day " + barrier, same(x, y));
+            Check.due("up to the grade", x.undo(99), 63);
+            Check.due("its day", x.told(4), barrier);
+        }
+        HerbWaters fresh = new HerbWaters();
+        fresh.days(5);
+        Check.due("of a new object", fresh.undo(9) * 10 + fresh.told(4), 50);
         HerbWaters x = undoTown();
         Check.due("none on day 0", x.undo(1), 0);
         x.days(5);
@@ -188,6 +207,12 @@ final class StateCalls {
         Sentences.of("Promise 11", "(to the latest town(), opinion() that was told, please(), contrary(), grade(), rest() that"
                 + " were not refused, and restore() at most): how many.");
         ends("town", x -> x.town(10));
+        ends("town behind another end", x -> x.grade(0, 1) + x.town(10));
+        HerbWaters next = Scene.make();
+        next.town(10);
+        next.days(3);
+        next.undo(2);
+        Check.due("days of the next town", next.told(4) * 10 + next.village(0, 0), 17);
         ends("opinion", x -> x.opinion(1, 0));
         ends("please", x -> x.please(1));
         ends("please of the same", x -> x.please(4));
@@ -309,6 +334,9 @@ final class StateCalls {
         Scene.villages((y, v) -> y.thinks(v, 0, 0, 0, 0, 0, 0), (y, v) -> y.thinks(v, 3, -1, -1, -1, -1, -1));
         Sentences.of("Promise 15", "nothing put ahead; a frog halves; PLEASED or not; CONTRARY is not asked).");
         Check.due("nothing put ahead", x.thinks(0, 0, 1, 0, 0, 0, 1), 2);
+        Check.opinion(x, 0, "put sage put+8;");
+        Check.due("nothing put ahead is 0", x.thinks(0, 2, 1, 0, 0, 0, 1), 8);
+        Check.opinion(x, 0, opinion);
         Check.due("a frog halves each part", x.thinks(1, 0, 41, 0, 0, 0, 7), 20 + 3);
         x.please(3);
         Check.due("pleased", x.thinks(0, 0, 40, 2, 3, 5, 6), 46);

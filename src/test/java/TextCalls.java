@@ -1,5 +1,7 @@
 import java.lang.reflect.Method;
 import java.lang.reflect.Modifier;
+import java.util.ArrayList;
+import java.util.List;
 import java.util.TreeSet;
 
 /** The face, and promises 1 to 6: what is fed and told. */
@@ -16,6 +18,7 @@ final class TextCalls {
         feed();
         feedFull();
         town();
+        nothingIsLeft();
         townFault();
         townRefused();
         opinion();
@@ -146,6 +149,56 @@ final class TextCalls {
         Check.due("n 0: no villages", empty.told(0), 0);
         HerbWaters whole = Scene.make();
         Check.due("all of the tape", whole.town(Scene.TAPE), 2);
+    }
+
+    /** All that can be asked of a town of two villages, with opinions that look at all there is, as it goes on. */
+    private static List<Integer> course(HerbWaters x) {
+        List<Integer> all = new ArrayList<>();
+        for (int v = 0; v < 2; v++) {
+            Check.opinion(x, v, "put mint put+1;put rue spring+1;put sage water;");
+        }
+        for (int what = 0; what < 8; what++) {
+            all.add(x.told(what));
+        }
+        for (int i = 0; i < 9; i++) {
+            for (int v = 0; v < 2; v++) {
+                for (int what = 0; what < 9; what++) {
+                    all.add(x.village(v, what));
+                }
+            }
+            for (int what = 0; what < 5; what++) {
+                all.add(x.tap(what));
+                all.add(x.sums(what));
+            }
+            x.days(1);
+        }
+        all.add(x.minds(0));
+        all.add(x.round(0));
+        return all;
+    }
+
+    private static void nothingIsLeft() {
+        Sentences.of("Promise 3", "are the TOWN (DAY 0; no OPINIONS, BOOK, IMAGES;");
+        String rich = "village 50;village 40;channel 0 1 3;channel 1 0 3;leak 0 2;leak 1 1;tap 1 4;spring 0 9;spring 1 8;"
+                + "lag 0 5;lag 1 4;frog 0;frog 1;filter 0 mint 3;filter 1 rue 4;filter 1 sage 2;feast 7;";
+        String plain = "village 5;village 6;";
+        List<Integer> due = course(Check.town(plain));
+        // A town may be read into what another one was read into: so towns follow one another in several ways.
+        String[][] ways = {{rich}, {rich, plain}, {rich, rich}, {rich + "x"}, {rich + "x", plain}, {plain, rich + "x"}};
+        for (String[] way : ways) {
+            HerbWaters x = new HerbWaters();
+            for (String text : way) {
+                Check.town(x, text);
+                x.days(7);
+                x.please(x.told(0) > 0 ? 1 : 0);
+            }
+            if (x.told(0) > 0) {
+                course(x);
+                Check.book(x, "99 7;");
+            }
+            Check.due("the plain town", Check.town(x, plain), 2);
+            Check.due("nothing is left behind " + way.length + " towns: " + way[0], course(x).equals(due));
+        }
     }
 
     private static void townFault() {
