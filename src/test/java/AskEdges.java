@@ -165,6 +165,13 @@ final class AskEdges {
         minds("by another opinion, of rue", x, 1, 0, 0, 511);
         Check.opinion(x, 8, "put mint 1 if day=1;put sage 1 if day=5;");
         minds("by another opinion, of mint", x, 1, 256, 256, 255);
+        Check.opinion(x, 8, "put rue 1 if day=1;");
+        minds("of rue alone", x, 1, 0, 0, 511);
+        Check.opinion(x, 8, "put mint 1 if day=1;");
+        minds("of mint alone", x, 1, 256, 256, 255);
+        Check.book(x, "3 1;4 0;");
+        Check.opinion(x, 8, "put sage 1 if day=1;");
+        minds("of sage alone, contrary or not", x, 2, 0, 0, 255);
         Check.town(x, "village 0;village 0;");
         minds("of another town", x, 4, 0, 0, 0);
     }
